@@ -59,7 +59,10 @@ public final class ChainSurvey {
 
     private static final String FIRST_SETUP = "survey 25 300; leg oak 90 4 0; leg mill 0 3 0 dropped 1; leg barn 270 4 5 at 25; bog reed 180 130; adjust;";
 
-    private final byte[] input = new byte[MAX_INPUT];
+    private final Interpreter interpreter = new Interpreter();
+
+    /** The interpreter owns this row and the draft, so that neither need be handed to it. */
+    private final byte[] input = interpreter.lexer.text;
     private int inputLength;
     private int lastError;
     private int lastErrorOffset = NONE;
@@ -69,9 +72,8 @@ public final class ChainSurvey {
 
     private final Survey present = new Survey();
     /** Holds what a text or a forecast makes of the survey, so that the present one stays as it is. */
-    private final Survey draft = new Survey();
+    private final Survey draft = interpreter.survey;
     private final Traverse traverse = new Traverse();
-    private final Interpreter interpreter = new Interpreter(input, draft);
 
     /** A ring: the place of the next change comes round to the oldest one. */
     private final Survey[] past = new Survey[MAX_UNDO];
@@ -917,20 +919,16 @@ public final class ChainSurvey {
     }
 
     /** Splits a text into tokens and holds one of them at a time. */
-    private static final class Scanner {
+    private static final class Lexer {
         /** Above every range of the document; a longer run of digits counts no further. */
         private static final int TOO_GREAT = 1000000;
 
-        final byte[] text;
+        final byte[] text = new byte[MAX_INPUT];
         int length;
         int kind;
         int start;
         int end;
         int number;
-
-        Scanner(byte[] text) {
-            this.text = text;
-        }
 
         void begin(int textLength) {
             length = Math.min(textLength, text.length);
@@ -982,42 +980,37 @@ public final class ChainSurvey {
      * it, or notes the error at the token that is wrong there.
      */
     private static final class Interpreter {
-        final Scanner scanner;
-        final Survey survey;
+        final Lexer lexer = new Lexer();
+        final Survey survey = new Survey();
         int commands;
         int error;
         int errorPlace = NONE;
-
-        Interpreter(byte[] text, Survey survey) {
-            this.scanner = new Scanner(text);
-            this.survey = survey;
-        }
 
         void begin(int length) {
             commands = 0;
             error = 0;
             errorPlace = NONE;
-            scanner.begin(length);
+            lexer.begin(length);
         }
 
         /** Answers false, as all that read a part do when it is wrong. */
         private boolean fail(int code) {
             error = code;
-            errorPlace = scanner.start;
+            errorPlace = lexer.start;
             return false;
         }
 
         boolean readsHead() {
             survey.clear();
-            if (!scanner.isAt("survey")) {
+            if (!lexer.isAt("survey")) {
                 return fail(SYNTAX_ERROR);
             }
-            scanner.advance();
+            lexer.advance();
             return readsWear() && readsPace() && readsSemicolon();
         }
 
         boolean readsCommands() {
-            for (commands = 0; commands < MAX_INPUT && scanner.kind != END; commands++) {
+            for (commands = 0; commands < MAX_INPUT && lexer.kind != END; commands++) {
                 if (!readsCommand()) {
                     return false;
                 }
@@ -1026,33 +1019,33 @@ public final class ChainSurvey {
         }
 
         private boolean readsCommand() {
-            if (scanner.isAt("leg")) {
+            if (lexer.isAt("leg")) {
                 return readsChained();
             }
-            if (scanner.isAt("bog")) {
+            if (lexer.isAt("bog")) {
                 return readsBog();
             }
-            if (scanner.isAt("drop")) {
+            if (lexer.isAt("drop")) {
                 return readsPin(true);
             }
-            if (scanner.isAt("found")) {
+            if (lexer.isAt("found")) {
                 return readsPin(false);
             }
-            if (scanner.isAt("wear")) {
-                scanner.advance();
+            if (lexer.isAt("wear")) {
+                lexer.advance();
                 return readsWear() && readsSemicolon();
             }
-            if (scanner.isAt("pace")) {
-                scanner.advance();
+            if (lexer.isAt("pace")) {
+                lexer.advance();
                 return readsPace() && readsSemicolon();
             }
-            if (scanner.isAt("adjust")) {
+            if (lexer.isAt("adjust")) {
                 return readsAdjusted(true);
             }
-            if (scanner.isAt("raw")) {
+            if (lexer.isAt("raw")) {
                 return readsAdjusted(false);
             }
-            if (scanner.isAt("back")) {
+            if (lexer.isAt("back")) {
                 return readsBack();
             }
             return fail(SYNTAX_ERROR);
@@ -1094,12 +1087,12 @@ public final class ChainSurvey {
         }
 
         private boolean readsPin(boolean isDropped) {
-            scanner.advance();
+            lexer.advance();
             int leg = legHere();
             if (leg == NONE) {
                 return false;
             }
-            if (scanner.kind == SEMICOLON && !(isDropped ? survey.canDrop(leg) : survey.canFind(leg))) {
+            if (lexer.kind == SEMICOLON && !(isDropped ? survey.canDrop(leg) : survey.canFind(leg))) {
                 return fail(NOT_POSSIBLE);
             }
             if (!readsSemicolon()) {
@@ -1129,14 +1122,14 @@ public final class ChainSurvey {
         }
 
         private boolean readsAdjusted(boolean isAdjusted) {
-            scanner.advance();
+            lexer.advance();
             survey.adjusted = isAdjusted;
             return readsSemicolon();
         }
 
         private boolean readsBack() {
-            scanner.advance();
-            if (scanner.kind == SEMICOLON && survey.legs == 0) {
+            lexer.advance();
+            if (lexer.kind == SEMICOLON && survey.legs == 0) {
                 return fail(NOT_POSSIBLE);
             }
             if (!readsSemicolon()) {
@@ -1147,10 +1140,10 @@ public final class ChainSurvey {
         }
 
         private boolean readsSemicolon() {
-            if (scanner.kind != SEMICOLON) {
+            if (lexer.kind != SEMICOLON) {
                 return fail(SYNTAX_ERROR);
             }
-            scanner.advance();
+            lexer.advance();
             return true;
         }
 
@@ -1160,14 +1153,14 @@ public final class ChainSurvey {
                 fail(TOO_MANY);
                 return NONE;
             }
-            scanner.advance();
+            lexer.advance();
             int name = nameHere();
             if (name != NONE && survey.legNamed(name) != NONE) {
                 fail(DUPLICATE_NAME);
                 return NONE;
             }
             if (name != NONE) {
-                scanner.advance();
+                lexer.advance();
             }
             return name;
         }
@@ -1182,13 +1175,13 @@ public final class ChainSurvey {
                 fail(UNKNOWN_NAME);
                 return NONE;
             }
-            scanner.advance();
+            lexer.advance();
             return leg;
         }
 
         /** Stays at the name, as an error of the name is still to be noted there. */
         private int nameHere() {
-            int name = scanner.kind == WORD ? packedName(scanner.text, scanner.start, scanner.end) : NONE;
+            int name = lexer.kind == WORD ? packedName(lexer.text, lexer.start, lexer.end) : NONE;
             if (name == NONE) {
                 fail(SYNTAX_ERROR);
             }
@@ -1196,29 +1189,29 @@ public final class ChainSurvey {
         }
 
         private boolean passes(String word) {
-            if (!scanner.isAt(word)) {
+            if (!lexer.isAt(word)) {
                 return false;
             }
-            scanner.advance();
+            lexer.advance();
             return true;
         }
 
         /** Whether the token is no number, which numberHere() refuses, or a right bearing. */
         private boolean mayTurnHere() {
-            return scanner.kind != NUMBER || isBearing(scanner.number) || fail(OUT_OF_RANGE);
+            return lexer.kind != NUMBER || isBearing(lexer.number) || fail(OUT_OF_RANGE);
         }
 
         private int numberHere(int least, int greatest) {
-            if (scanner.kind != NUMBER) {
+            if (lexer.kind != NUMBER) {
                 fail(SYNTAX_ERROR);
                 return NONE;
             }
-            int number = scanner.number;
+            int number = lexer.number;
             if (!isBetween(number, least, greatest)) {
                 fail(OUT_OF_RANGE);
                 return NONE;
             }
-            scanner.advance();
+            lexer.advance();
             return number;
         }
     }
