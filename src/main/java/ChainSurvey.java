@@ -987,7 +987,6 @@ public final class ChainSurvey {
         int errorPlace = NONE;
 
         void begin(int length) {
-            commands = 0;
             error = 0;
             errorPlace = NONE;
             lexer.begin(length);

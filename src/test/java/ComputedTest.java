@@ -135,6 +135,9 @@ public final class ComputedTest {
         dueLengths("survey 0 100;leg a 0 8 33 at 14;", 83300, 83300, 83300);
         dueLengths("survey 0 100;leg a 0 8 34 at 14;", 83400, 83399, 83399);
         dueLengths("survey 0 100;leg a 0 99 99 dropped 9 at 0;", 1089900, 1089704, 1089704);
+        // 25000 * 10 * 12 is just 3 times a million.
+        dueLengths("survey 0 100;leg a 0 2 50 at 25;", 25000, 25003, 25003);
+        dueLengths("survey 0 100;leg a 0 2 50 at 5;", 25000, 24997, 24997);
         // The heat is taken of the length with the wear: 83300 * 1.0013 = 83408.
         dueLengths("survey 13 100;leg a 0 8 33 at 16;", 83300, 83409, 83409);
         // Neither wear nor heat changes a bog leg.
@@ -260,6 +263,8 @@ public final class ComputedTest {
         checks.due("farthest, a near tie", Checks.loaded("survey 0 100;leg a 0 1 0;leg b 180 1 0;leg c 45 1 0;").farthestStation(), 1);
         // 5000, 8660 has the root 9999 like 7071, 7071; their squares differ.
         checks.due("farthest, equal roots", Checks.loaded("survey 0 100;leg a 30 1 0;leg b 210 1 0;leg c 45 1 0;").farthestStation(), 1);
+        // Rounding leaves the middle of a straight line at 1, 1.
+        checks.due("farthest, a distance of 1", Checks.loaded("survey 0 100;bog a 15 2;bog b 15 1;adjust;").farthestStation(), 1);
         checks.due("longest, a tie", Checks.loaded("survey 0 100;leg a 0 0 5;leg b 0 1 0;bog c 0 100;").longestLeg(), 1);
         checks.due("longest is horizontal", Checks.loaded("survey 0 100;leg a 0 1 0 rise 80;bog b 0 61;").longestLeg(), 1);
         checks.due("longest, the last", Checks.loaded("survey 0 100;leg a 0 0 5;bog b 0 6;").longestLeg(), 1);
@@ -342,6 +347,8 @@ public final class ComputedTest {
         for (int i = 0; i < setups.length; i++) {
             checks.due("bestPace of " + setups[i], Checks.loaded("survey 0 500;" + setups[i]).bestPace(), due[i]);
         }
+        // 100 of wear makes 101 units of a link.
+        checks.due("bestPace just above the least", Checks.loaded("survey 100 500;leg a 0 0 1;bog b 180 1;").bestPace(), 101);
         // From 100 to 141 the misclosure keeps the root 10000, although its square grows; the lowest pace is due.
         checks.due("equal roots", Checks.loaded("survey 0 141;leg a 0 1 0;bog b 90 1;").misclosure(), 10000);
     }

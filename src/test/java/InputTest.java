@@ -79,6 +79,13 @@ public final class InputTest {
             Checks.feed(x, names[i]);
             checks.due("findLeg() of " + names[i], x.findLeg(), legs[i]);
         }
+        ChainSurvey two = Checks.loaded("survey 0 100;leg ba 0 1 0;leg a 0 1 0;");
+        String[] others = {"ba", "a", "cA", "`a", "b{", "b", "ab", "aa", "\u00e1"};
+        for (int i = 0; i < others.length; i++) {
+            two.truncateInput(0);
+            Checks.feed(two, others[i]);
+            checks.due("findLeg() of " + others[i], two.findLeg(), i < 2 ? i : -1);
+        }
         x.removeLast();
         x.truncateInput(0);
         Checks.feed(x, "a");

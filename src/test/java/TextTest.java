@@ -117,7 +117,7 @@ public final class TextTest {
     }
 
     private static void wrongCommands() {
-        wrongScript(1, "^;", "^5;", "^legs a 0 1 1;", "^le", "^rise 5;", "^at;", "^survey 0 100;", "^dropped;", "raw;^;",
+        wrongScript(1, "^;", "^5;", "^legs a 0 1 1;", "^keg a 0 1 1;", "^fog a 0 1;", "leg a 0 1 1 ^ot 5;", "^le", "^rise 5;", "^at;", "^survey 0 100;", "^dropped;", "raw;^;",
                 "raw^", "raw ^raw;", "raw ^5;", "adjust^", "adjust ^x;", "back^", "back ^back;", "back^.;",
                 "wear^", "wear^;", "wear ^x;", "wear 5^", "wear 5 ^5;", "pace^", "pace^;", "pace 200^", "pace 200^leg;",
                 "drop^", "drop ^5;", "drop^;", "drop ^abcdefg;", "drop oak^", "drop oak ^oak;", "drop reed^", "drop reed ^x;",
