@@ -63,7 +63,7 @@ final class Checks {
             right++;
         } else {
             wrong++;
-            System.out.println(complaint);
+            System.out.println(complaint.replaceAll("(.)\\1{19,}", "$1..$1"));
         }
     }
 
@@ -111,16 +111,16 @@ final class Checks {
 
     static String nameOf(ChainSurvey x, int leg) {
         StringBuilder name = new StringBuilder();
-        for (int i = 0; x.nameByte(leg, i) != ChainSurvey.NONE; i++) {
-            name.append((char) x.nameByte(leg, i));
+        for (int sign = x.nameByte(leg, 0); sign != ChainSurvey.NONE; sign = x.nameByte(leg, name.length())) {
+            name.append((char) sign);
         }
         return name.toString();
     }
 
     static String output(ChainSurvey x) {
         StringBuilder text = new StringBuilder();
-        for (int i = 0; x.outputByte(i) != ChainSurvey.NONE; i++) {
-            text.append((char) x.outputByte(i));
+        for (int sign = x.outputByte(0); sign != ChainSurvey.NONE; sign = x.outputByte(text.length())) {
+            text.append((char) sign);
         }
         return text.toString();
     }
