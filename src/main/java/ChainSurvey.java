@@ -747,7 +747,7 @@ public final class ChainSurvey {
         final int[] dropped = new int[MAX_LEGS];
         final int[] rises = new int[MAX_LEGS];
         final int[] temperatures = new int[MAX_LEGS];
-        /** Never more than MAX_LEGS: addSlot() alone makes it greater. */
+        /** Never more than MAX_LEGS: addChained() alone makes it greater. */
         int legs;
         int wear;
         int pace = MIN_PACE;
